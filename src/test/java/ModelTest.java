@@ -92,13 +92,34 @@ public final class ModelTest {
 
     private boolean seek() {
         int goal = anyCell();
-        int input = anyCell();
-        int target = below(40) == 0 ? odd() : below(2) == 0 ? below(200) - 50 : below(2000000001) - 1000000000;
-        int low = below(40) == 0 ? odd() : below(greatest + 1);
+        int input = below(5) == 0 ? anyCell() : inputOf(goal);
+        int target = below(40) == 0 ? odd() : below(2) == 0 ? below(200) - 50 : near(goal);
+        int low = below(40) == 0 ? odd() : below(3) == 0 ? below(greatest + 1) : below(4);
         int high = below(40) == 0 ? odd() : low >= 0 && low < 999999 ? low + below(1000000 - low) : low;
         String call = "seek(" + goal + ", " + target + ", " + input + ", " + low + ", " + high + ")";
         return alike(call, () -> office.seek(goal, target, input, low, high),
             () -> model.seek(goal, target, input, low, high));
+    }
+
+    /** A cell that can be the input of the goal, if there is one. */
+    private int inputOf(int goal) {
+        int from = below(cells);
+        for (int i = 0; i < cells; i++) {
+            int cell = (from + i) % cells;
+            if (goal >= 0 && goal < cells && model.signs(cell) < 2 && model.depends(goal, cell)) {
+                return cell;
+            }
+        }
+        return from;
+    }
+
+    /** A target that is near the value of the goal as it stands, if it has one. */
+    private int near(int goal) {
+        String value = answer(() -> model.value(goal));
+        if (value.startsWith("throws") || value.length() > 9) {
+            return below(2000000001) - 1000000000;
+        }
+        return Integer.parseInt(value) + below(7) - 3;
     }
 
     private boolean ask(int cell, int other) {

@@ -106,6 +106,14 @@ public final class SeekTest {
     private static void faults() {
         none("100 / c0", 5, 0, 50);
         none("100 / (50 - c0)", 5, 0, 50);
+        // One end is faulty, and the other is not on the side on which a faulty one might be taken to be.
+        none("100 / c0", 1, 0, 50);
+        none("100 / (50 - c0)", 1, 0, 50);
+        none("-100 / c0", -1, 0, 50);
+        none("-100 / (50 - c0)", -1, 0, 50);
+        // Half of 0 and 5 is 2, not 3, where the divisor is 0.
+        seek("c0 + 0 / (c0 - 3)", 1, 0, 5, 1);
+        none("c0 + 0 / (c0 - 2)", 1, 0, 5);
         // The middle of 0 and 50 is 25, where the divisor is 0, though low already reaches the target.
         none("0 / (25 - c0)", 0, 0, 50);
         none("100 / (25 - c0)", 0, 0, 50);
