@@ -4,6 +4,23 @@ import java.util.function.LongSupplier;
 final class Expect {
     private int compared;
     private int wrong;
+    private String sentence = "";
+
+    /** The sentence of the document that the following calls test; it is told ahead of their wrong answers. */
+    void sentence(String words) {
+        sentence = "[" + words + "] ";
+    }
+
+    /** Runs the test of one sentence; what it throws counts as wrong and leaves the other tests to run. */
+    void test(Runnable test) {
+        sentence = "";
+        try {
+            test.run();
+        } catch (RuntimeException thrown) {
+            report("a call threw " + thrown);
+        }
+        sentence = "";
+    }
 
     void same(String call, long got, long due) {
         compared++;
@@ -40,7 +57,7 @@ final class Expect {
 
     private void report(String line) {
         wrong++;
-        System.out.println(line);
+        System.out.println(sentence + line);
     }
 
     void end() {
